@@ -1,4 +1,4 @@
-/** Joints of wood as solids of boxes, as the document DOC.md promises them; words in capitals there are used here alike. */
+/** Joints of wood as solids of boxes, as the document DOC.md promises them, in its words. */
 public final class JointSolids {
     public static final int NONE = -1;
     public static final int LAP = 0, HOUSING = 1, FINGERS = 2, TENON = 3, BRIDLE = 4;
@@ -33,6 +33,7 @@ public final class JointSolids {
     private final int[] tool = new int[CORNERS];
     private final int[] rest = new int[CORNERS];
     private final int[] common = new int[CORNERS];
+    /** Where the spans of a joint begin and end along its axis; the first always begins at 0. */
     private final int[] marks = new int[MOST_SLICES + 1];
 
     public JointSolids() {
@@ -321,7 +322,7 @@ public final class JointSolids {
         }
     }
 
-    /** Marks where a joint's spans, which its parts lose by turns, begin and end along the axis; how many there are. */
+    /** Marks the spans of a joint, which its parts lose by turns; how many there are. */
     private int markSpans(int kind, int size, int width) {
         int spans;
         switch (kind) {
@@ -344,7 +345,6 @@ public final class JointSolids {
                 marks[2] = size - size / 3;
                 break;
         }
-        marks[0] = 0;
         marks[spans] = size;
         return spans;
     }

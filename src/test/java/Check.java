@@ -52,7 +52,7 @@ final class Check {
         }), "throws." + due);
     }
 
-    /** All that calls can tell of an object without changing it, so that two states can be compared. */
+    /** All that calls can tell of an object without changing it; more than 512 calls, which this class bears. */
     static String state(JointSolids x) {
         StringBuilder all = new StringBuilder();
         for (int p = 0; p < 8; p++) {

@@ -353,6 +353,9 @@ public final class PromisesTest {
         Check.same("9: less what a lost", x.overlap(0, 1), 23);
         x.cut(1, 8, 7, 6, 2, 3, 1);
         Check.same("9: less what b lost", x.overlap(0, 1), 17);
+        x.cut(3, -2000, -2000, -2000, 2000, 2000, 2000);
+        Check.same("9: nothing left of a", x.overlap(3, 4), 0);
+        Check.same("9: nothing left of b", x.overlap(4, 3), 0);
         wrongPairs("9:", x, 5, (a, b) -> (int) x.overlap(a, b));
     }
 
@@ -375,6 +378,9 @@ public final class PromisesTest {
         JointSolids z = object(0, 0, 0, 6, 6, 6, 2, 2, 2, 2, 2, 2);
         z.joint(JointSolids.HOUSING, 0, 1, 0, 1);
         Check.same("10: a hole filled on all six sides", z.touch(0, 1), 24);
+        z.cut(1, 2, 2, 2, 2, 2, 2);
+        Check.same("10: nothing left of a", z.touch(1, 0), 0);
+        Check.same("10: nothing left of b", z.touch(0, 1), 0);
         wrongPairs("10:", x, 6, (a, b) -> (int) x.touch(a, b));
     }
 
