@@ -5,8 +5,11 @@ import java.util.Set;
 
 /** Long runs of calls on small numbers, each answer compared with a slow model that counts unit cells and faces. */
 public final class ModelTest {
-    private static final int RUNS = 1500;
+    private static final int RUNS = 4000;
+    /** An object is made for so many calls. */
     private static final int CALLS = 512;
+    /** As many calls as tell all pieces of a full part. */
+    private static final int LOOK = 1 + 24 * 6;
 
     /** A box as the document has it: x, y, z to X, Y, Z. */
     private record Box(int x, int y, int z, int ex, int ey, int ez) {
@@ -300,6 +303,7 @@ public final class ModelTest {
     }
 
     private long seed;
+    private int used;
 
     private ModelTest(long seed) {
         this.seed = seed;
@@ -340,8 +344,9 @@ public final class ModelTest {
         JointSolids x = new JointSolids();
         Model m = new Model();
         int size = pick(2, 9);
-        for (int i = 0; i < CALLS; i++) {
-            String what = "run " + number + ", call " + i + ": ";
+        for (int i = 0; used + 2 + 2 * LOOK <= CALLS; i++) {
+            String what = "run " + number + ", step " + i + ": ";
+            used += 2;
             switch (i < 3 ? 0 : pick(0, 13)) {
                 case 0: {
                     if (i >= 3 && pick(0, 9) > 0) {
@@ -374,7 +379,15 @@ public final class ModelTest {
             }
         }
         for (int p = 0; p < m.parts.size(); p++) {
-            Check.same("run " + number + ": the pieces of " + p, Check.pieces(x, p), text(m.parts.get(p)));
+            look("run " + number + ", in the end: ", x, m, p);
+        }
+    }
+
+    /** Compares all pieces of a part, as long as the object has calls left for it. */
+    private void look(String what, JointSolids x, Model m, int part) {
+        if (!m.none(part) && used + LOOK <= CALLS) {
+            used += 1 + 6 * m.parts.get(part).size();
+            Check.same(what + "the pieces of " + part, Check.pieces(x, part), text(m.parts.get(part)));
         }
     }
 
@@ -412,8 +425,8 @@ public final class ModelTest {
         int[] n = {aPart(m), box[0], box[1], box[2], box[3], box[4], box[5]};
         String got = Check.told(() -> x.cut(n[0], n[1], n[2], n[3], n[4], n[5], n[6]) ? 1 : 0);
         Check.same(what + "cut", got, m.cut(n));
-        if (!m.none(n[0])) {
-            Check.same(what + "cut's pieces", Check.pieces(x, n[0]), text(m.parts.get(n[0])));
+        if (pick(0, 3) == 0) {
+            look(what, x, m, n[0]);
         }
     }
 
@@ -427,9 +440,9 @@ public final class ModelTest {
         int axis = mostly(0, 2, 0, 2);
         int width = mostly(1, 3, 1, 1000);
         Check.same(what + "joint", Check.told(() -> x.joint(kind, a, b, axis, width)), m.joint(kind, a, b, axis, width));
-        if (!m.none(a) && !m.none(b)) {
-            Check.same(what + "a's pieces", Check.pieces(x, a), text(m.parts.get(a)));
-            Check.same(what + "b's pieces", Check.pieces(x, b), text(m.parts.get(b)));
+        if (pick(0, 1) == 0) {
+            look(what, x, m, a);
+            look(what, x, m, b);
         }
     }
 

@@ -1,4 +1,7 @@
-/** Each promise of the document: ordinary inputs, the edges that it names, and wrong inputs. */
+/**
+ * Each promise of the document: ordinary inputs, the edges that it names, and wrong inputs. That what is refused
+ * changes nothing is the matter of BoundsTest, TermsTest and RefusalsTest.
+ */
 public final class PromisesTest {
     private static final int LOW = Integer.MIN_VALUE;
     private static final int HIGH = Integer.MAX_VALUE;
@@ -7,18 +10,7 @@ public final class PromisesTest {
     }
 
     private static JointSolids object(int... boxes) {
-        JointSolids x = new JointSolids();
-        for (int i = 0; i + 5 < boxes.length; i += 6) {
-            x.part(boxes[i], boxes[i + 1], boxes[i + 2], boxes[i + 3], boxes[i + 4], boxes[i + 5]);
-        }
-        return x;
-    }
-
-    /** The call throws what is due, and all that can be told of the object stays as it was. */
-    private static void refused(String what, JointSolids x, String due, Check.Act act) {
-        String before = Check.state(x);
-        Check.thrown(what, due, act);
-        Check.same(what + ": the state after it", Check.state(x), before);
+        return Samples.object(boxes);
     }
 
     /** A part of 24 pieces: a bar in front, then 23 slices of a thinner bar behind it. */
@@ -60,14 +52,14 @@ public final class PromisesTest {
             for (int v : wrong) {
                 int[] n = {0, 0, 0, 1, 1, 1};
                 n[i] = v;
-                refused("2: " + i + " is " + v, x, Check.ARGUMENT, () -> x.part(n[0], n[1], n[2], n[3], n[4], n[5]));
+                Check.thrown("2: " + i + " is " + v, Check.ARGUMENT, () -> x.part(n[0], n[1], n[2], n[3], n[4], n[5]));
             }
         }
         for (int i = 2; i < 8; i++) {
             Check.same("2: number", x.part(i, i, i, 1, 2, 3), i);
         }
-        refused("2: a ninth", x, Check.STATE, () -> x.part(0, 0, 0, 1, 1, 1));
-        refused("2: a ninth and a wrong size", x, Check.ARGUMENT, () -> x.part(0, 0, 0, 1, 1, 0));
+        Check.thrown("2: a ninth", Check.STATE, () -> x.part(0, 0, 0, 1, 1, 1));
+        Check.thrown("2: a ninth and a wrong size", Check.ARGUMENT, () -> x.part(0, 0, 0, 1, 1, 0));
     }
 
     private static void promise3() {
@@ -94,15 +86,15 @@ public final class PromisesTest {
     private static void wrongCuts() {
         JointSolids x = object(0, 0, 0, 10, 10, 10);
         for (int part : new int[] {-1, 1, 8, LOW, HIGH}) {
-            refused("3: part " + part, x, Check.INDEX, () -> x.cut(part, 0, 0, 0, 1, 1, 1));
-            refused("3: part " + part + " and size 0", x, Check.INDEX, () -> x.cut(part, 0, 0, 0, 0, 1, 1));
+            Check.thrown("3: part " + part, Check.INDEX, () -> x.cut(part, 0, 0, 0, 1, 1, 1));
+            Check.thrown("3: part " + part + " and size 0", Check.INDEX, () -> x.cut(part, 0, 0, 0, 0, 1, 1));
         }
         for (int i = 0; i < 6; i++) {
             int[] wrong = i < 3 ? new int[] {-2001, 2001, LOW, HIGH} : new int[] {0, -1, 2001, LOW, HIGH};
             for (int v : wrong) {
                 int[] n = {1, 1, 1, 1, 1, 1};
                 n[i] = v;
-                refused("3: " + i + " is " + v, x, Check.ARGUMENT, () -> x.cut(0, n[0], n[1], n[2], n[3], n[4], n[5]));
+                Check.thrown("3: " + i + " is " + v, Check.ARGUMENT, () -> x.cut(0, n[0], n[1], n[2], n[3], n[4], n[5]));
             }
         }
         for (int i = 0; i < 6; i++) {
@@ -115,9 +107,9 @@ public final class PromisesTest {
     private static void roomForCuts() {
         JointSolids x = full();
         Check.same("3: 24 pieces have room", x.pieces(0), 24);
-        refused("3: 25 have none", x, Check.STATE, () -> x.cut(0, 4, 0, 0, 1, 10, 10));
-        refused("3: 28 have none", x, Check.STATE, () -> x.cut(0, 5, 5, 5, 1, 1, 1));
-        refused("3: a wrong size before no room", x, Check.ARGUMENT, () -> x.cut(0, 4, 0, 0, 0, 10, 10));
+        Check.thrown("3: 25 have none", Check.STATE, () -> x.cut(0, 4, 0, 0, 1, 10, 10));
+        Check.thrown("3: 28 have none", Check.STATE, () -> x.cut(0, 5, 5, 5, 1, 1, 1));
+        Check.thrown("3: a wrong size before no room", Check.ARGUMENT, () -> x.cut(0, 4, 0, 0, 0, 10, 10));
         Check.same("3: nothing is cut, nothing more is needed", x.cut(0, 99, 0, 0, 1, 1, 1), false);
         Check.same("3: none more, but smaller", x.cut(0, 0, 0, 0, 1, 10, 10), true);
         Check.same("3: still 24", x.pieces(0), 24);
@@ -133,7 +125,7 @@ public final class PromisesTest {
         x.clear(100);
         Check.same("4: joints before it stay", Check.pieces(x, 0), "0 0 0 150 1 1");
         for (int c : new int[] {-1, 101, LOW, HIGH}) {
-            refused("4: " + c, x, Check.ARGUMENT, () -> x.clear(c));
+            Check.thrown("4: " + c, Check.ARGUMENT, () -> x.clear(c));
         }
         x.joint(JointSolids.LAP, 2, 3, 0, 1);
         Check.same("4: a loses more", Check.pieces(x, 2), "0 5 0 50 6 1");
@@ -229,8 +221,8 @@ public final class PromisesTest {
         Check.same("5: the other way round", x.joint(JointSolids.LAP, 1, 0, 0, 1), 1);
         Check.same("5: a is 1", x.about(1, 1), 1);
         JointSolids y = object(0, 0, 0, 4, 4, 4, 4, 0, 0, 4, 4, 4, 4, 4, 4, 1, 1, 1, 3, 3, 3, 1, 1, 1);
-        refused("5: a face in common is no box", y, Check.STATE, () -> y.joint(JointSolids.HOUSING, 0, 1, 0, 1));
-        refused("5: nor is a corner", y, Check.STATE, () -> y.joint(JointSolids.HOUSING, 0, 2, 0, 1));
+        Check.thrown("5: a face in common is no box", Check.STATE, () -> y.joint(JointSolids.HOUSING, 0, 1, 0, 1));
+        Check.thrown("5: nor is a corner", Check.STATE, () -> y.joint(JointSolids.HOUSING, 0, 2, 0, 1));
         Check.same("5: one place is", y.joint(JointSolids.HOUSING, 0, 3, 0, 1), 0);
         Check.same("5: a loses it", y.volume(0), 63);
     }
@@ -238,23 +230,23 @@ public final class PromisesTest {
     private static void wrongJoints() {
         JointSolids x = object(0, 0, 0, 9, 9, 1, 0, 0, 0, 9, 9, 1, 50, 0, 0, 1, 1, 1);
         for (int v : new int[] {-1, 5, 8, LOW, HIGH}) {
-            refused("5: kind " + v, x, Check.INDEX, () -> x.joint(v, 0, 0, 0, 0));
-            refused("5: a " + v, x, Check.INDEX, () -> x.joint(0, v, 1, 0, 0));
-            refused("5: b " + v, x, Check.INDEX, () -> x.joint(0, 0, v, 0, 0));
-            refused("5: axis " + v, x, Check.INDEX, () -> x.joint(0, 0, 0, v, 0));
+            Check.thrown("5: kind " + v, Check.INDEX, () -> x.joint(v, 0, 0, 0, 0));
+            Check.thrown("5: a " + v, Check.INDEX, () -> x.joint(0, v, 1, 0, 0));
+            Check.thrown("5: b " + v, Check.INDEX, () -> x.joint(0, 0, v, 0, 0));
+            Check.thrown("5: axis " + v, Check.INDEX, () -> x.joint(0, 0, 0, v, 0));
         }
-        refused("5: part 3", x, Check.INDEX, () -> x.joint(0, 3, 3, 0, 1));
-        refused("5: axis 3", x, Check.INDEX, () -> x.joint(0, 0, 1, 3, 1));
-        refused("5: both are one", x, Check.ARGUMENT, () -> x.joint(0, 2, 2, 0, 1));
+        Check.thrown("5: part 3", Check.INDEX, () -> x.joint(0, 3, 3, 0, 1));
+        Check.thrown("5: axis 3", Check.INDEX, () -> x.joint(0, 0, 1, 3, 1));
+        Check.thrown("5: both are one", Check.ARGUMENT, () -> x.joint(0, 2, 2, 0, 1));
         for (int width : new int[] {0, -1, 1001, LOW, HIGH}) {
             for (int kind = 0; kind < 5; kind++) {
                 int of = kind;
-                refused("5: width " + width, x, Check.ARGUMENT, () -> x.joint(of, 0, 1, 0, width));
-                refused("5: width before no box", x, Check.ARGUMENT, () -> x.joint(of, 0, 2, 0, width));
+                Check.thrown("5: width " + width, Check.ARGUMENT, () -> x.joint(of, 0, 1, 0, width));
+                Check.thrown("5: width before no box", Check.ARGUMENT, () -> x.joint(of, 0, 2, 0, width));
             }
         }
-        refused("5: no box before lacking", x, Check.STATE, () -> x.joint(JointSolids.LAP, 0, 2, 2, 1));
-        refused("5: nine slices", x, Check.STATE, () -> x.joint(JointSolids.FINGERS, 0, 1, 0, 1));
+        Check.thrown("5: no box before lacking", Check.STATE, () -> x.joint(JointSolids.LAP, 0, 2, 2, 1));
+        Check.thrown("5: nine slices", Check.STATE, () -> x.joint(JointSolids.FINGERS, 0, 1, 0, 1));
         Check.same("5: five slices", x.joint(JointSolids.FINGERS, 0, 1, 0, 2), 0);
         Check.same("5: a width of no use", x.joint(JointSolids.HOUSING, 0, 1, 0, 1000), 1);
     }
@@ -264,16 +256,16 @@ public final class PromisesTest {
         for (int i = 0; i < 12; i++) {
             Check.same("5: number", x.joint(i % 2, 0, 1, 0, 1), i);
         }
-        refused("5: a thirteenth", x, Check.STATE, () -> x.joint(JointSolids.LAP, 0, 1, 0, 1));
-        refused("5: a thirteenth before lacking", x, Check.STATE, () -> x.joint(JointSolids.LAP, 0, 1, 2, 1));
-        refused("5: a wrong number before a thirteenth", x, Check.ARGUMENT, () -> x.joint(0, 0, 0, 0, 1));
+        Check.thrown("5: a thirteenth", Check.STATE, () -> x.joint(JointSolids.LAP, 0, 1, 0, 1));
+        Check.thrown("5: a thirteenth before lacking", Check.STATE, () -> x.joint(JointSolids.LAP, 0, 1, 2, 1));
+        Check.thrown("5: a wrong number before a thirteenth", Check.ARGUMENT, () -> x.joint(0, 0, 0, 0, 1));
 
         JointSolids y = full();
         y.part(3, 0, 0, 4, 10, 10);
         y.part(3, 4, 4, 4, 2, 2);
-        refused("5: b has no room, a stays", y, Check.STATE, () -> y.joint(JointSolids.FINGERS, 1, 0, 0, 1));
-        refused("5: a has no room, b stays", y, Check.STATE, () -> y.joint(JointSolids.LAP, 0, 1, 0, 1));
-        refused("5: no room inside", y, Check.STATE, () -> y.joint(JointSolids.HOUSING, 0, 2, 0, 1));
+        Check.thrown("5: b has no room, a stays", Check.STATE, () -> y.joint(JointSolids.FINGERS, 1, 0, 0, 1));
+        Check.thrown("5: a has no room, b stays", Check.STATE, () -> y.joint(JointSolids.LAP, 0, 1, 0, 1));
+        Check.thrown("5: no room inside", Check.STATE, () -> y.joint(JointSolids.HOUSING, 0, 2, 0, 1));
         Check.same("5: the next still has the first number", y.joint(JointSolids.HOUSING, 1, 0, 0, 1), 0);
         Check.same("5: a lost it all", y.pieces(1), 0);
 
@@ -281,7 +273,7 @@ public final class PromisesTest {
         z.cut(0, 96, 0, 0, 4, 10, 10);
         z.part(2, 0, 0, 6, 10, 10);
         Check.same("5: 23 pieces", z.pieces(0), 23);
-        refused("5: its second cut has no room", z, Check.STATE, () -> z.joint(JointSolids.FINGERS, 0, 1, 0, 1));
+        Check.thrown("5: its second cut has no room", Check.STATE, () -> z.joint(JointSolids.FINGERS, 0, 1, 0, 1));
         Check.same("5: one cut has", z.joint(JointSolids.TENON, 0, 1, 0, 1), 0);
         Check.same("5: 24 pieces", z.pieces(0), 24);
     }
@@ -295,7 +287,7 @@ public final class PromisesTest {
         x.cut(1, 0, 0, 0, 1, 1, 1);
         Check.same("6: none left", x.pieces(1), 0);
         for (int v : new int[] {-1, 2, 7, 8, LOW, HIGH}) {
-            refused("6: part " + v, x, Check.INDEX, () -> x.pieces(v));
+            Check.thrown("6: part " + v, Check.INDEX, () -> x.pieces(v));
         }
     }
 
@@ -306,18 +298,18 @@ public final class PromisesTest {
             Check.same("7: corner " + k, x.corner(1, 0, k), due[k]);
         }
         for (int v : new int[] {-1, 24, 25, 192, LOW, HIGH}) {
-            refused("7: part " + v, x, Check.INDEX, () -> x.corner(v, 0, 0));
-            refused("7: piece " + v, x, Check.INDEX, () -> x.corner(1, v, 0));
-            refused("7: k " + v, x, Check.INDEX, () -> x.corner(1, 0, v));
+            Check.thrown("7: part " + v, Check.INDEX, () -> x.corner(v, 0, 0));
+            Check.thrown("7: piece " + v, Check.INDEX, () -> x.corner(1, v, 0));
+            Check.thrown("7: k " + v, Check.INDEX, () -> x.corner(1, 0, v));
         }
-        refused("7: part 2", x, Check.INDEX, () -> x.corner(2, 0, 0));
-        refused("7: piece 1", x, Check.INDEX, () -> x.corner(1, 1, 0));
-        refused("7: k 6", x, Check.INDEX, () -> x.corner(1, 0, 6));
+        Check.thrown("7: part 2", Check.INDEX, () -> x.corner(2, 0, 0));
+        Check.thrown("7: piece 1", Check.INDEX, () -> x.corner(1, 1, 0));
+        Check.thrown("7: k 6", Check.INDEX, () -> x.corner(1, 0, 6));
         x.cut(1, -3, 5, 7, 1, 1, 1);
-        refused("7: k 6 of a piece that others follow", x, Check.INDEX, () -> x.corner(1, 0, 6));
-        refused("7: k -1 of a piece behind others", x, Check.INDEX, () -> x.corner(1, 1, -1));
+        Check.thrown("7: k 6 of a piece that others follow", Check.INDEX, () -> x.corner(1, 0, 6));
+        Check.thrown("7: k -1 of a piece behind others", Check.INDEX, () -> x.corner(1, 1, -1));
         x.cut(0, 0, 0, 0, 1, 1, 1);
-        refused("7: a piece that is gone", x, Check.INDEX, () -> x.corner(0, 0, 0));
+        Check.thrown("7: a piece that is gone", Check.INDEX, () -> x.corner(0, 0, 0));
     }
 
     private static void promise8() {
@@ -329,17 +321,17 @@ public final class PromisesTest {
         x.cut(1, 0, 0, 0, 2000, 2000, 2000);
         Check.same("8: nothing", x.volume(1), 0);
         for (int v : new int[] {-1, 2, 8, LOW, HIGH}) {
-            refused("8: part " + v, x, Check.INDEX, () -> x.volume(v));
+            Check.thrown("8: part " + v, Check.INDEX, () -> x.volume(v));
         }
     }
 
     private static void wrongPairs(String what, JointSolids x, int parts, java.util.function.IntBinaryOperator call) {
         for (int v : new int[] {-1, parts, 8, LOW, HIGH}) {
-            refused(what + " a " + v, x, Check.INDEX, () -> call.applyAsInt(v, 0));
-            refused(what + " b " + v, x, Check.INDEX, () -> call.applyAsInt(0, v));
-            refused(what + " both " + v, x, Check.INDEX, () -> call.applyAsInt(v, v));
+            Check.thrown(what + " a " + v, Check.INDEX, () -> call.applyAsInt(v, 0));
+            Check.thrown(what + " b " + v, Check.INDEX, () -> call.applyAsInt(0, v));
+            Check.thrown(what + " both " + v, Check.INDEX, () -> call.applyAsInt(v, v));
         }
-        refused(what + " both are one", x, Check.ARGUMENT, () -> call.applyAsInt(1, 1));
+        Check.thrown(what + " both are one", Check.ARGUMENT, () -> call.applyAsInt(1, 1));
     }
 
     private static void promise9() {
@@ -403,7 +395,7 @@ public final class PromisesTest {
         x.cut(0, 0, 0, 0, 10, 10, 10);
         Check.same("11: of a part without pieces", x.has(0, 0, 0, 0), false);
         for (int v : new int[] {-1, 1, 8, LOW, HIGH}) {
-            refused("11: part " + v, x, Check.INDEX, () -> x.has(v, 0, 0, 0));
+            Check.thrown("11: part " + v, Check.INDEX, () -> x.has(v, 0, 0, 0));
         }
     }
 
@@ -424,11 +416,11 @@ public final class PromisesTest {
         x.joint(JointSolids.LAP, 0, 1, 0, 1);
         x.row(JointSolids.LAP, 100);
         for (int v : new int[] {-1, 5, LOW, HIGH}) {
-            refused("12: kind " + v, x, Check.INDEX, () -> x.row(v, 1));
-            refused("12: kind " + v + " and a wrong row", x, Check.INDEX, () -> x.row(v, -1));
+            Check.thrown("12: kind " + v, Check.INDEX, () -> x.row(v, 1));
+            Check.thrown("12: kind " + v + " and a wrong row", Check.INDEX, () -> x.row(v, -1));
         }
         for (int v : new int[] {-1, 10001, LOW, HIGH}) {
-            refused("12: row " + v, x, Check.ARGUMENT, () -> x.row(JointSolids.LAP, v));
+            Check.thrown("12: row " + v, Check.ARGUMENT, () -> x.row(JointSolids.LAP, v));
         }
         Check.same("12: as before", x.strength(0), 100);
         x.row(JointSolids.LAP, 0);
@@ -455,7 +447,7 @@ public final class PromisesTest {
         y.row(JointSolids.FINGERS, 10000);
         Check.same("13: beyond an int", y.strength(0), 700000000L);
         for (int v : new int[] {-1, 2, 12, LOW, HIGH}) {
-            refused("13: joint " + v, x, Check.INDEX, () -> x.strength(v));
+            Check.thrown("13: joint " + v, Check.INDEX, () -> x.strength(v));
         }
     }
 
@@ -476,11 +468,11 @@ public final class PromisesTest {
         Check.same("14: what is gone is not lost again: b", x.about(2, 5), 0);
         Check.same("14: the first", x.about(0, 4), 1);
         for (int v : new int[] {-1, 12, LOW, HIGH}) {
-            refused("14: joint " + v, x, Check.INDEX, () -> x.about(v, 0));
-            refused("14: what " + v, x, Check.INDEX, () -> x.about(0, v));
+            Check.thrown("14: joint " + v, Check.INDEX, () -> x.about(v, 0));
+            Check.thrown("14: what " + v, Check.INDEX, () -> x.about(0, v));
         }
-        refused("14: joint 3", x, Check.INDEX, () -> x.about(3, 0));
-        refused("14: what 6", x, Check.INDEX, () -> x.about(0, 6));
+        Check.thrown("14: joint 3", Check.INDEX, () -> x.about(3, 0));
+        Check.thrown("14: what 6", Check.INDEX, () -> x.about(0, 6));
         JointSolids y = object(-1000, -1000, -1000, 1000, 1000, 1000, -1000, -1000, -1000, 1000, 1000, 1000);
         y.joint(JointSolids.HOUSING, 0, 1, 0, 1);
         Check.same("14: the largest loss", y.about(0, 4), 1000000000L);
