@@ -1,3 +1,5 @@
+import java.util.Map;
+
 /** The calls of the face, each with its numbers as a row: so that one of them can be put in the place of another. */
 interface Calls {
     int LOW = Integer.MIN_VALUE;
@@ -25,6 +27,12 @@ interface Calls {
     };
     Calls STRENGTH = (x, n) -> x.strength(n[0]);
     Calls ABOUT = (x, n) -> x.about(n[0], n[1]);
+    Calls FIRST = (x, n) -> x.first();
+
+    Map<String, Calls> BY_NAME = Map.ofEntries(Map.entry("part", PART), Map.entry("cut", CUT),
+        Map.entry("clear", CLEAR), Map.entry("joint", JOINT), Map.entry("pieces", PIECES), Map.entry("corner", CORNER),
+        Map.entry("volume", VOLUME), Map.entry("overlap", OVERLAP), Map.entry("touch", TOUCH), Map.entry("has", HAS),
+        Map.entry("row", ROW), Map.entry("strength", STRENGTH), Map.entry("about", ABOUT), Map.entry("first", FIRST));
 
     /** The same numbers with another one at a place. */
     static int[] with(int[] numbers, int at, int v) {

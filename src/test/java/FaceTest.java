@@ -74,6 +74,28 @@ public final class FaceTest {
         }
     }
 
+    /** The classes inside are static and not open, as LANGUAGE.md asks, and no class or method is too large for it. */
+    private static void classesInside() {
+        List<Class<?>> all = new ArrayList<>(List.of(JointSolids.class.getDeclaredClasses()));
+        for (Class<?> inside : all) {
+            int how = inside.getModifiers();
+            Check.same(inside + " is static", Modifier.isStatic(how), true);
+            Check.same(inside + " is open", Modifier.isPublic(how) || Modifier.isProtected(how), false);
+        }
+        all.add(JointSolids.class);
+        Check.same("at most 12 classes", all.size() <= 12, true);
+        for (Class<?> each : all) {
+            int fields = 0;
+            for (Field f : each.getDeclaredFields()) {
+                fields += Modifier.isStatic(f.getModifiers()) ? 0 : 1;
+            }
+            Check.same(each + " has at most 20 fields", fields <= 20, true);
+            for (Method m : each.getDeclaredMethods()) {
+                Check.same(m + " has at most seven parameters", m.getParameterCount() <= 7, true);
+            }
+        }
+    }
+
     public static void main(String[] args) throws IllegalAccessException {
         Check.same("the face", String.join("\n", shown()), String.join("\n", new TreeSet<>(List.of(FACE))));
         Check.same("final", Modifier.isFinal(JointSolids.class.getModifiers()), true);
@@ -83,6 +105,7 @@ public final class FaceTest {
             Check.same("static state in " + f.getName(), shared, false);
         }
         privateNamesAreNotPublicOnes();
+        classesInside();
         Check.end("FaceTest");
     }
 }
