@@ -445,6 +445,31 @@ public final class TermsTest {
         for (int slices = 2; slices <= 8; slices++) {
             roomForSlices(slices);
         }
+        laterCutsMakeNoRoom();
+    }
+
+    private static JointSolids thinCombAndBar(int length) {
+        JointSolids x = Samples.thinComb();
+        x.part(2, 4, 0, length, 2, 10);
+        return x;
+    }
+
+    /** The first cut makes more pieces of the comb's cube, those behind it take teeth off: too late for the first. */
+    private static void laterCutsMakeNoRoom() {
+        Check.refused("27 pieces first, 18 in the end", () -> thinCombAndBar(54), x -> x.joint(FINGERS, 0, 1, 0, 7),
+            Check.STATE);
+        Check.refused("26 pieces first, 22 in the end", () -> thinCombAndBar(26), x -> x.joint(TENON, 1, 0, 0, 1),
+            Check.STATE);
+        JointSolids x = thinCombAndBar(54);
+        x.cut(0, 50, 0, 0, 6, 10, 10);
+        Check.same("three teeth less", x.pieces(0), 21);
+        Check.same("24 pieces first have room", x.joint(FINGERS, 0, 1, 0, 7), 0);
+        Check.same("what is left in the end", x.pieces(0), 15);
+        JointSolids y = thinCombAndBar(26);
+        y.cut(0, 52, 0, 0, 4, 10, 10);
+        Check.same("two teeth less", y.pieces(0), 22);
+        Check.same("24 pieces first have room too", y.joint(TENON, 1, 0, 0, 1), 0);
+        Check.same("what is left of b in the end", y.pieces(0), 20);
     }
 
     /** A comb loses every other slice of its cube, the first one at its end: a piece more for each but the first. */
